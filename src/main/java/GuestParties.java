@@ -1295,7 +1295,7 @@ public final class GuestParties {
     /** LEAVING. */
     private static final class Departure {
         private static final int MOST_GOINGS = 60;
-        // Between two GOINGS fewer guests stay than there are, and so they do behind the last.
+        // Ahead of each GOING fewer guests stay than there are, and behind the last no more than these.
         private static final int MOST_TURNS = (MOST_GOINGS + 1) * MOST_GUESTS;
 
         private final Standing standing = new Standing();
@@ -1318,7 +1318,7 @@ public final class GuestParties {
             goings = 0;
             int g = 0;
             int stayedInARow = 0;
-            for (int turn = 0; turn < MOST_TURNS && hasStopped() && stayedInARow < rules.guests(); turn++) {
+            for (int turn = 0; turn < MOST_TURNS && goings < MOST_GOINGS && stayedInARow < rules.guests(); turn++) {
                 if (takesTurn(rules, g)) {
                     goings++;
                     stayedInARow = 0;

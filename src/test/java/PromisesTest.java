@@ -161,6 +161,7 @@ public final class PromisesTest {
         fault("ring 1;", 5);
         fault("ring1;", 4);
         fault("rings;", 0);
+        fault("ringz;", 0);
         fault("rin", 0);
         fault("Ring;", 0);
         fault("rinG;", 0);
@@ -186,6 +187,7 @@ public final class PromisesTest {
         x.join(0, 1);
         x.saw(0, 1, 1);
         x.keep(0);
+        x.keep(1);
         x.lot(77);
         x.rate(0, 0);
         Due.is("4 fault", Texts.tell(x, "guests 3;hat 0 5;ring;ring;"), -10 - 22);
@@ -203,6 +205,7 @@ public final class PromisesTest {
         row("4 anew: now", x, "0123");
         Due.is("4 anew: seen", x.count(1), 0);
         Due.is("4 anew: image", x.back(0), STATE);
+        Due.is("4 anew: the other image", x.back(1), STATE);
         Due.is("4 anew: lot stays", x.lot(77), 77);
         Due.is("4 anew: trace stays", x.trace(), 102);
         for (int what = 0; what < 5; what++) {
@@ -212,8 +215,11 @@ public final class PromisesTest {
         Due.is("4 anew: apart", x.count(3), 0);
         Due.is("4 anew: worth", x.pair(0, 1, 2), 0);
         Due.is("4 anew: many", x.many(0), 15);
-        Texts.tell(x, "guests 5;");
+        Texts.tell(x, "guests 5;hat 0 0;");
         Due.is("4 anew: hat", x.rate(2, 4), 1);
+        Due.is("4 anew, once more: together", x.count(2), 0);
+        Due.is("4 anew, once more: apart", x.count(3), 0);
+        Due.is("4 anew, once more: many", x.many(0), 52);
     }
 
     private static void law() {
