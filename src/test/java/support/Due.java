@@ -18,6 +18,22 @@ final class Due {
         is(what, does ? 1 : 0, 1);
     }
 
+    /** Two texts of lines are alike; else the first line that is not is told. */
+    static void same(String what, String got, String want) {
+        looked++;
+        String[] gotLines = got.split("\n", -1);
+        String[] wantLines = want.split("\n", -1);
+        for (int i = 0; i < Math.max(gotLines.length, wantLines.length); i++) {
+            String gotLine = i < gotLines.length ? gotLines[i] : "(nothing)";
+            String wantLine = i < wantLines.length ? wantLines[i] : "(nothing)";
+            if (!gotLine.equals(wantLine)) {
+                wrong++;
+                System.out.println(what + ": '" + gotLine + "', due is '" + wantLine + "'");
+                return;
+            }
+        }
+    }
+
     static void finish() {
         System.out.println(looked + " looked at, " + wrong + " wrong");
         System.exit(wrong == 0 ? 0 : 1);

@@ -27,6 +27,11 @@ final class Texts {
         return x.room();
     }
 
+    /** So many bytes: blanks come between what is at the beginning and what is at the end. */
+    static String filled(String ahead, String behind, int length) {
+        return ahead + " ".repeat(length - ahead.length() - behind.length()) + behind;
+    }
+
     /** A new object whose room is told so. */
     static GuestParties room(String text) {
         GuestParties x = new GuestParties();
