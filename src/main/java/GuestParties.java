@@ -414,15 +414,16 @@ public final class GuestParties {
         private static final int HIGHEST_NUMBER = 99;
         private static final int HIGHEST_HAT = 5;
         private static final int HIGHEST_WORTH = 9;
+        private static final int MOST_NUMBERS = 3;
 
         private final Text text;
+        // The NUMBERS of the ITEM that is read.
+        private final int[] numbers = new int[MOST_NUMBERS];
         private Rules rules;
         private int next = 0;
         private int token = END;
         private int tokenStart = 0;
         private int value = 0;
-        private int firstGuest = 0;
-        private int secondGuest = 0;
 
         Reader(Text text, Rules rules) {
             this.text = text;
@@ -437,112 +438,89 @@ public final class GuestParties {
             int items = 0;
             advance();
             while (token != END && items < Text.SPACE) {
-                if (!readItem(items == 0)) {
+                int word = token;
+                if (!mayBegin(word, items) || !readNumbers(word) || !readSemicolon()) {
                     return -10 - tokenStart;
                 }
+                tell(word);
                 items++;
                 advance();
             }
             return items;
         }
 
-        private boolean readItem(boolean isFirst) {
-            switch (token) {
-                case GUESTS: return isFirst && readGuests();
-                case HAT: return readHat();
-                case PARTIES: return readNumberLaw(Rules.PARTIES);
-                case LEAST: return readNumberLaw(Rules.LEAST);
-                case MOST: return readNumberLaw(Rules.MOST);
-                case UNLIKE: return readPlainLaw(Rules.UNLIKE);
-                case RING: return readPlainLaw(Rules.RING);
-                case TOGETHER: return readTogether();
-                case APART: return readApart();
-                case WORTH: return readWorth(1);
-                case COST: return readWorth(-1);
-                default: return false;
+        private boolean mayBegin(int word, int items) {
+            switch (word) {
+                case GUESTS: return items == 0;
+                case PARTIES: return rules.lawOf(Rules.PARTIES) == 0;
+                case LEAST: return rules.lawOf(Rules.LEAST) == 0;
+                case MOST: return rules.lawOf(Rules.MOST) == 0;
+                case UNLIKE: return rules.lawOf(Rules.UNLIKE) == 0;
+                case RING: return rules.lawOf(Rules.RING) == 0;
+                default: return word < WORDS;
             }
         }
 
-        private boolean readGuests() {
-            if (!readNumber(1, MOST_GUESTS)) {
-                return false;
+        private boolean readNumbers(int word) {
+            int due = numbersOf(word);
+            for (int i = 0; i < due && i < MOST_NUMBERS; i++) {
+                advance();
+                if (token != NUMBER || value < lowest(word) || value > highest(word, i)) {
+                    return false;
+                }
+                boolean isOfPair = i == 1 && word != HAT;
+                if (isOfPair && value == numbers[0]) {
+                    return false;
+                }
+                numbers[i] = value;
             }
-            rules.setGuests(value);
-            return readSemicolon();
-        }
-
-        private boolean readHat() {
-            if (!readNumber(0, rules.guests() - 1)) {
-                return false;
-            }
-            firstGuest = value;
-            if (!readNumber(0, HIGHEST_HAT)) {
-                return false;
-            }
-            rules.setHat(firstGuest, value);
-            return readSemicolon();
-        }
-
-        private boolean readNumberLaw(int what) {
-            if (rules.lawOf(what) != 0 || !readNumber(1, MOST_GUESTS)) {
-                return false;
-            }
-            rules.setLaw(what, value);
-            return readSemicolon();
-        }
-
-        private boolean readPlainLaw(int what) {
-            if (rules.lawOf(what) != 0) {
-                return false;
-            }
-            rules.setLaw(what, 1);
-            return readSemicolon();
-        }
-
-        private boolean readTogether() {
-            if (!readTwoGuests()) {
-                return false;
-            }
-            rules.putTogether(firstGuest, secondGuest);
-            return readSemicolon();
-        }
-
-        private boolean readApart() {
-            if (!readTwoGuests()) {
-                return false;
-            }
-            rules.putApart(firstGuest, secondGuest);
-            return readSemicolon();
-        }
-
-        private boolean readWorth(int sign) {
-            if (!readTwoGuests() || !readNumber(0, HIGHEST_WORTH)) {
-                return false;
-            }
-            rules.setWorth(firstGuest, secondGuest, sign * value);
-            return readSemicolon();
-        }
-
-        private boolean readTwoGuests() {
-            if (!readNumber(0, rules.guests() - 1)) {
-                return false;
-            }
-            firstGuest = value;
-            if (!readNumber(0, rules.guests() - 1)) {
-                return false;
-            }
-            secondGuest = value;
-            return firstGuest != secondGuest;
-        }
-
-        private boolean readNumber(int lowest, int highest) {
-            advance();
-            return token == NUMBER && value >= lowest && value <= highest;
+            return true;
         }
 
         private boolean readSemicolon() {
             advance();
             return token == SEMICOLON;
+        }
+
+        private void tell(int word) {
+            switch (word) {
+                case GUESTS: rules.setGuests(numbers[0]); break;
+                case HAT: rules.setHat(numbers[0], numbers[1]); break;
+                case PARTIES: rules.setLaw(Rules.PARTIES, numbers[0]); break;
+                case LEAST: rules.setLaw(Rules.LEAST, numbers[0]); break;
+                case MOST: rules.setLaw(Rules.MOST, numbers[0]); break;
+                case UNLIKE: rules.setLaw(Rules.UNLIKE, 1); break;
+                case RING: rules.setLaw(Rules.RING, 1); break;
+                case TOGETHER: rules.putTogether(numbers[0], numbers[1]); break;
+                case APART: rules.putApart(numbers[0], numbers[1]); break;
+                case WORTH: rules.setWorth(numbers[0], numbers[1], numbers[2]); break;
+                default: rules.setWorth(numbers[0], numbers[1], -numbers[2]);
+            }
+        }
+
+        private static int numbersOf(int word) {
+            switch (word) {
+                case UNLIKE: case RING: return 0;
+                case GUESTS: case PARTIES: case LEAST: case MOST: return 1;
+                case HAT: case TOGETHER: case APART: return 2;
+                default: return 3;
+            }
+        }
+
+        private static int lowest(int word) {
+            switch (word) {
+                case GUESTS: case PARTIES: case LEAST: case MOST: return 1;
+                default: return 0;
+            }
+        }
+
+        private int highest(int word, int i) {
+            int lastGuest = rules.guests() - 1;
+            switch (word) {
+                case GUESTS: case PARTIES: case LEAST: case MOST: return MOST_GUESTS;
+                case HAT: return i == 0 ? lastGuest : HIGHEST_HAT;
+                default: return i < 2 ? lastGuest : HIGHEST_WORTH;
+            }
         }
 
         private void advance() {
@@ -720,10 +698,13 @@ public final class GuestParties {
 
         /** The WORTHS of a guest with the others of a set, added. */
         int worthWith(int g, int set) {
+            if (!isOne(g)) {
+                return 0;
+            }
             int sum = 0;
-            for (int other = 0; other < guests; other++) {
+            for (int other = 0; other < guests && other < MOST_GUESTS; other++) {
                 if (other != g && (set & 1 << other) != 0) {
-                    sum += worthOf(g, other);
+                    sum += worths[g][other];
                 }
             }
             return sum;
@@ -759,8 +740,8 @@ public final class GuestParties {
             if (laws[UNLIKE] == 0) {
                 return false;
             }
-            for (int other = 0; other < g; other++) {
-                if ((set & 1 << other) != 0 && hatOf(other) == hatOf(g)) {
+            for (int other = 0; other < g && g < MOST_GUESTS; other++) {
+                if ((set & 1 << other) != 0 && hats[other] == hats[g]) {
                     return true;
                 }
             }

@@ -14,6 +14,7 @@ import com.sun.source.tree.TryTree;
 import com.sun.source.tree.VariableTree;
 import com.sun.source.util.JavacTask;
 import com.sun.source.util.SourcePositions;
+import com.sun.source.util.TreePathScanner;
 import com.sun.source.util.TreeScanner;
 import com.sun.source.util.Trees;
 import java.io.File;
@@ -21,8 +22,14 @@ import java.lang.reflect.Constructor;
 import java.lang.reflect.Field;
 import java.lang.reflect.Method;
 import java.lang.reflect.Modifier;
+import java.util.ArrayList;
+import java.util.HashMap;
+import java.util.LinkedHashSet;
+import java.util.List;
+import java.util.Map;
 import java.util.Set;
 import java.util.TreeSet;
+import javax.lang.model.element.Element;
 import javax.tools.JavaCompiler;
 import javax.tools.StandardJavaFileManager;
 import javax.tools.ToolProvider;
@@ -50,6 +57,8 @@ public final class LanguageTest {
             Due.is("imports", unit.getImports().size(), 0);
             Due.holds("no package", unit.getPackageName() == null);
             new Rules(unit, Trees.instance(task).getSourcePositions()).lookAt();
+            task.analyze();
+            new Calls(Trees.instance(task)).lookAt(unit);
         }
         Due.finish();
     }
@@ -180,6 +189,61 @@ public final class LanguageTest {
         @Override public Void visitMemberReference(MemberReferenceTree tree, String owner) {
             refuse(tree);
             return super.visitMemberReference(tree, owner);
+        }
+    }
+
+    /** Which method calls which: how deep the calls go that are no recursion. */
+    private static final class Calls extends TreePathScanner<Void, Element> {
+        private static final int DEEPEST = 8;
+
+        private final Trees trees;
+        private final Map<Element, Set<Element>> called = new HashMap<>();
+
+        Calls(Trees trees) {
+            this.trees = trees;
+        }
+
+        void lookAt(CompilationUnitTree unit) {
+            scan(unit, null);
+            Due.holds("calls were found: " + called.size(), called.size() > METHODS.size());
+            for (Element method : called.keySet()) {
+                List<Element> longest = longestFrom(method, new ArrayList<>());
+                Due.holds("calls go deep: " + longest, longest.size() <= DEEPEST);
+            }
+        }
+
+        private List<Element> longestFrom(Element method, List<Element> open) {
+            List<Element> longest = new ArrayList<>(open);
+            longest.add(method);
+            List<Element> here = longest;
+            for (Element next : called.getOrDefault(method, Set.of())) {
+                if (!here.contains(next)) {
+                    List<Element> deeper = longestFrom(next, here);
+                    longest = deeper.size() > longest.size() ? deeper : longest;
+                }
+            }
+            return longest;
+        }
+
+        private void note(Element caller) {
+            Element target = trees.getElement(getCurrentPath());
+            if (caller != null && target != null) {
+                called.computeIfAbsent(caller, k -> new LinkedHashSet<>()).add(target);
+            }
+        }
+
+        @Override public Void visitMethod(MethodTree tree, Element outer) {
+            return super.visitMethod(tree, trees.getElement(getCurrentPath()));
+        }
+
+        @Override public Void visitMethodInvocation(MethodInvocationTree tree, Element caller) {
+            note(caller);
+            return super.visitMethodInvocation(tree, caller);
+        }
+
+        @Override public Void visitNewClass(NewClassTree tree, Element caller) {
+            note(caller);
+            return super.visitNewClass(tree, caller);
         }
     }
 }

@@ -5,6 +5,8 @@ public final class NowEdgesTest {
     private static final int NONE = GuestParties.NONE;
     private static final int NO = GuestParties.NO;
     private static final int LOW = Integer.MIN_VALUE;
+    private static final String ALL_TOLD = "guests 8;hat 0 5;hat 7 4;parties 3;least 2;most 4;unlike;ring;together 0 1;"
+            + "apart 6 7;worth 0 7 9;cost 1 2 9;";
 
     public static void main(String[] args) {
         atFirst();
@@ -12,6 +14,7 @@ public final class NowEdgesTest {
         pairsOfGuests();
         countZeroToFour();
         readAnew();
+        readAnewAsIfNew();
         guestsZeroToLast();
         partiesAreNumberedByLeastGuests();
         goesToGuests();
@@ -76,6 +79,10 @@ public final class NowEdgesTest {
             Due.is("6 a below", x.pair(-1, last, 2), NO);
             Due.is("6 b below", x.pair(last, -1, 2), NO);
             Due.is("6 worth below nothing is not NO", x.pair(1, 0, 2), -9);
+            Due.is("6 together", x.pair(0, 1, 0), 1);
+            Due.is("6 apart", x.pair(1, 0, 1), 1);
+            Due.is("6 not together", n > 2 ? x.pair(0, last, 0) : 0, 0);
+            Due.is("6 not apart", n > 2 ? x.pair(last, 1, 1) : 0, 0);
         }
         Due.is("6 one guest has no pair", Texts.room("guests 1;").pair(0, 0, 0), NO);
         Due.is("6 one guest has no pair", Texts.room("guests 1;").pair(0, 1, 0), NO);
@@ -108,8 +115,29 @@ public final class NowEdgesTest {
         Due.is("30 all seen", x.count(1), 10);
     }
 
+    /** Nothing that was told before stays, be it read or not, once or several times. */
+    private static void readAnewAsIfNew() {
+        for (String last : new String[] {"", "guests 8;", "guests 8;ring;"}) {
+            String due = Looks.of(Texts.room(last));
+            for (int times = 1; times <= 3; times++) {
+                GuestParties x = Texts.room("guests 7;");
+                Due.is("4 all ways of seven", x.many(0), 877);
+                for (int i = 0; i < times; i++) {
+                    Due.is("4 all", Texts.tell(x, ALL_TOLD), 12);
+                    Due.is("4 six have one hat: none is lawful", x.many(0), 0);
+                }
+                Texts.tell(x, last);
+                Due.same("4 anew by '" + last + "'", Looks.of(x), due);
+            }
+            GuestParties x = new GuestParties();
+            Due.is("4 a FAULT at the end", Texts.tell(x, ALL_TOLD + "!"), -10 - ALL_TOLD.length());
+            Texts.tell(x, last);
+            Due.same("4 behind a FAULT by '" + last + "'", Looks.of(x), due);
+        }
+    }
+
     private static void readAnew() {
-        GuestParties x = Texts.room("guests 8;hat 0 5;parties 3;least 2;most 4;unlike;ring;together 0 1;apart 6 7;worth 0 7 9;");
+        GuestParties x = Texts.room(ALL_TOLD);
         x.join(0, 7);
         x.saw(0, 1, 1);
         x.keep(0);

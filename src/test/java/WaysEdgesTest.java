@@ -19,6 +19,7 @@ public final class WaysEdgesTest {
         seenTenAtMost();
         forgetsAll();
         leftAllAndNone();
+        seenOfEachPair();
         sureInAllOrNone();
         finerAndCoarserAtTheEnds();
         betweenFirstAndLast();
@@ -213,6 +214,23 @@ public final class WaysEdgesTest {
         }
         ten.saw(2, 3, 1);
         Due.is("19 the tenth", ten.left(), 2);
+    }
+
+    private static void seenOfEachPair() {
+        for (int is = 0; is <= 1; is++) {
+            GuestParties x = Texts.room("guests 8;");
+            for (int a = 0; a < 8; a++) {
+                for (int b = 0; b < 8; b++) {
+                    if (a != b) {
+                        x.saw(a, b, is);
+                        Due.is("19 seen " + a + " " + b, x.left(), is == 1 ? 877 : 4140 - 877);
+                        Due.is("20 seen " + a + " " + b, x.sure(a, b), is);
+                        Due.is("20 turned", x.sure(b, a), is);
+                        x.forget();
+                    }
+                }
+            }
+        }
     }
 
     private static void sureInAllOrNone() {
