@@ -494,7 +494,8 @@ public final class GuestParties {
                 case TOGETHER: rules.putTogether(numbers[0], numbers[1]); break;
                 case APART: rules.putApart(numbers[0], numbers[1]); break;
                 case WORTH: rules.setWorth(numbers[0], numbers[1], numbers[2]); break;
-                default: rules.setWorth(numbers[0], numbers[1], -numbers[2]);
+                case COST: rules.setWorth(numbers[0], numbers[1], -numbers[2]); break;
+                default: break;
             }
         }
 
@@ -503,7 +504,7 @@ public final class GuestParties {
                 case UNLIKE: case RING: return 0;
                 case GUESTS: case PARTIES: case LEAST: case MOST: return 1;
                 case HAT: case TOGETHER: case APART: return 2;
-                default: return 3;
+                default: return MOST_NUMBERS;
             }
         }
 
@@ -600,7 +601,8 @@ public final class GuestParties {
                 case TOGETHER: return "together";
                 case APART: return "apart";
                 case WORTH: return "worth";
-                default: return "cost";
+                case COST: return "cost";
+                default: return "";
             }
         }
     }
