@@ -15,6 +15,7 @@ public final class NowEdgesTest {
         countZeroToFour();
         readAnew();
         readAnewAsIfNew();
+        readAnewAllAlone();
         guestsZeroToLast();
         partiesAreNumberedByLeastGuests();
         goesToGuests();
@@ -133,6 +134,19 @@ public final class NowEdgesTest {
             Due.is("4 a FAULT at the end", Texts.tell(x, ALL_TOLD + "!"), -10 - ALL_TOLD.length());
             Texts.tell(x, last);
             Due.same("4 behind a FAULT by '" + last + "'", Looks.of(x), due);
+        }
+    }
+
+    /** Whoever went wherever: all are alone at first. */
+    private static void readAnewAllAlone() {
+        for (int g = 0; g < 8; g++) {
+            for (int to = 0; to < 8; to++) {
+                GuestParties x = Texts.room("guests 8;parties 4;");
+                x.draw();
+                x.goes(g, to);
+                Due.is("4 anew", Texts.tell(x, "guests 8;"), 1);
+                Edges.row("4 all alone behind " + g + " to " + to, x, "01234567");
+            }
         }
     }
 
