@@ -8,7 +8,8 @@ import java.util.Random;
 /** Runs of calls, the same each time, whose answers the plain model gives too. */
 public final class AgainstModelTest {
     private static final int RUNS = 400;
-    private static final int CALLS = 500;
+    // An object is promised so many.
+    private static final int CALLS = 512;
     private static final Random RANDOM = new Random(20261118);
     private static final List<Method> CALLED = new ArrayList<>();
     private static int calls;

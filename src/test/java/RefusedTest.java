@@ -108,7 +108,28 @@ public final class RefusedTest {
             } else if (scene.name.equals("one guest")) {
                 refused("room, told again", GuestParties::room, -10 - 5);
             }
+            String all = "guests 7;hat 0 5;hat 6 1;parties 3;least 2;most 4;unlike;ring;together 0 1;apart 2 3;"
+                    + "worth 0 3 9;cost 1 2 9;";
+            faultOfRoom(all + "!", all.length());
+            faultOfRoom(all + "ring;", all.length());
+            faultOfRoom(all + "hat 7 0;", all.length() + 4);
+            faultOfRoom(all + "worth 0 1", all.length() + 9);
         }
+    }
+
+    /** In this scene a text is typed that tells all otherwise, and can't be read at its end. */
+    private static void faultOfRoom(String told, int place) {
+        GuestParties notRead = typed(told);
+        GuestParties x = typed(told);
+        Due.is(scene.name + ": room of '" + told + "'", x.room(), -10 - place);
+        Due.same(scene.name + ": behind room of '" + told + "'", Looks.of(x), Looks.of(notRead));
+    }
+
+    private static GuestParties typed(String told) {
+        GuestParties x = scene.make();
+        x.clear();
+        Texts.type(x, told);
+        return x;
     }
 
     private static void lawsAndPairs() {
